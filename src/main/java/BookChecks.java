@@ -27,12 +27,12 @@ public final class BookChecks {
         this.seed = seed;
         this.pages = new Book();
         this.sales = new Book();
-        this.joins = new Joins(this.pages, this.sales);
+        this.joins = new Joins();
         this.plants = new Plants();
-        this.risks = new Risks(this.pages);
+        this.risks = new Risks();
         this.latest = new Row();
         this.trial = new Row();
-        this.watch = new Watch(this.pages);
+        this.watch = new Watch();
         this.acts = new Acts();
     }
 
@@ -45,7 +45,7 @@ public final class BookChecks {
     }
 
     public int run() {
-        return joins.joinAnew();
+        return joins.joinAnew(pages, sales);
     }
 
     public int pair(int page) {
@@ -54,7 +54,7 @@ public final class BookChecks {
 
     public int points(int page) {
         int sale = joins.saleOf(page);
-        return sale == NONE ? 0 : joins.pointsOf(page, sale);
+        return sale == NONE ? 0 : pages.fitWith(page, sales, sale);
     }
 
     public long differs(int page) {
@@ -63,7 +63,7 @@ public final class BookChecks {
     }
 
     public int waits(int day, int k) {
-        return joins.waiting(day, k);
+        return joins.waiting(pages, day, k);
     }
 
     public long pageAt(int page) throws IndexOutOfBoundsException {
@@ -101,7 +101,7 @@ public final class BookChecks {
         if (n < 0 || n > pages.size) {
             return NONE;
         }
-        risks.take(seed, n, latest);
+        risks.take(pages, seed, n, latest);
         return latest.size;
     }
 
@@ -110,7 +110,7 @@ public final class BookChecks {
     }
 
     public boolean same(long other) {
-        risks.take(other, latest.asked, trial);
+        risks.take(pages, other, latest.asked, trial);
         return latest.equalTo(trial);
     }
 
@@ -127,7 +127,7 @@ public final class BookChecks {
     }
 
     public int camera(int ship, int minutes) {
-        return watch.most(ship, minutes);
+        return watch.most(pages, ship, minutes);
     }
 
     public int act(int ship, int event, int person) {
@@ -235,38 +235,53 @@ public final class BookChecks {
             }
             return together;
         }
+
+        /** Points of a page of this book and a sale of another; 0 when they do not fit. */
+        int fitWith(int page, Book sales, int sale) {
+            if (!has(page) || !sales.has(sale)) {
+                return 0;
+            }
+            int later = sales.days[sale] - days[page];
+            boolean alike = ships[page] == sales.ships[sale] && kinds[page] == sales.kinds[sale];
+            if (!alike || later < 0 || later > DAYS_LATER) {
+                return 0;
+            }
+            return Math.max(0, 1000 - 100 * later - lostByGrams(grams[page], sales.grams[sale]));
+        }
+
+        private static int lostByGrams(long logged, long sold) {
+            long greater = Math.max(logged, sold);
+            return greater > 0 ? (int) (900L * Math.abs(logged - sold) / greater) : 0;
+        }
     }
 
     /** Which page was joined with which sale in the latest run. */
     private static final class Joins {
-        private final Book pages;
-        private final Book sales;
         private final int[] saleOfPage = new int[ENTRIES];
         private final int[] pageOfSale = new int[ENTRIES];
 
-        Joins(Book pages, Book sales) {
-            this.pages = pages;
-            this.sales = sales;
+        Joins() {
+            partAll();
+        }
+
+        private void partAll() {
             for (int i = 0; i < ENTRIES; i++) {
                 saleOfPage[i] = NONE;
                 pageOfSale[i] = NONE;
             }
         }
 
-        int joinAnew() {
-            for (int i = 0; i < ENTRIES; i++) {
-                saleOfPage[i] = NONE;
-                pageOfSale[i] = NONE;
-            }
+        int joinAnew(Book pages, Book sales) {
+            partAll();
             int pairs = 0;
-            for (int i = 0; i < ENTRIES && joinBest(); i++) {
+            for (int i = 0; i < ENTRIES && joinBest(pages, sales); i++) {
                 pairs++;
             }
             return pairs;
         }
 
         /** False when no page and sale are left that fit. */
-        private boolean joinBest() {
+        private boolean joinBest(Book pages, Book sales) {
             int most = 0;
             int bestPage = NONE;
             int bestSale = NONE;
@@ -275,9 +290,10 @@ public final class BookChecks {
                     continue;
                 }
                 for (int sale = 0; sale < sales.size; sale++) {
+                    int points = pageOfSale[sale] == NONE ? pages.fitWith(page, sales, sale) : 0;
                     // Only more points replace the best, so that of the same the lesser numbers stay.
-                    if (pageOfSale[sale] == NONE && mayFit(page, sale) && pointsOf(page, sale) > most) {
-                        most = pointsOf(page, sale);
+                    if (points > most) {
+                        most = points;
                         bestPage = page;
                         bestSale = sale;
                     }
@@ -291,29 +307,11 @@ public final class BookChecks {
             return true;
         }
 
-        /** Whether a page and a sale fit but for their points. */
-        private boolean mayFit(int page, int sale) {
-            int later = sales.days[sale] - pages.days[page];
-            return pages.ships[page] == sales.ships[sale] && pages.kinds[page] == sales.kinds[sale]
-                && later >= 0 && later <= DAYS_LATER;
-        }
-
-        int pointsOf(int page, int sale) {
-            if (!pages.has(page) || !sales.has(sale)) {
-                return 0;
-            }
-            long logged = pages.grams[page];
-            long sold = sales.grams[sale];
-            long greater = Math.max(logged, sold);
-            long lost = greater > 0 ? 900L * Math.abs(logged - sold) / greater : 0L;
-            return 1000 - 100 * (sales.days[sale] - pages.days[page]) - (int) lost;
-        }
-
         int saleOf(int page) {
-            return pages.has(page) ? saleOfPage[page] : NONE;
+            return page >= 0 && page < ENTRIES ? saleOfPage[page] : NONE;
         }
 
-        int waiting(int day, int k) {
+        int waiting(Book pages, int day, int k) {
             int before = 0;
             for (int page = 0; page < pages.size; page++) {
                 // As a long, so that no day, however far off, wraps round.
@@ -374,8 +372,8 @@ public final class BookChecks {
             if (lack <= 0) {
                 return 0;
             }
-            int best = ownKind(plant);
-            int own = best;
+            int own = ownKind(plant);
+            int best = own;
             for (int set = 1; set <= own; set++) {
                 boolean ownOnly = (set & ~own) == 0;
                 if (ownOnly && isBefore(set, best) && gramsOfSet(plant, set) >= lack) {
@@ -453,12 +451,10 @@ public final class BookChecks {
         // Every number from 1 to 10 divides it, so that weights are whole.
         private static final int WEIGHT_OF_ONE = 2520;
         private static final int MOST_BELOW = 10;
-        private final Book pages;
         private final int[] weightOfShip = new int[SHIPS];
         private final int[] weightLeft = new int[ENTRIES];
 
-        Risks(Book pages) {
-            this.pages = pages;
+        Risks() {
             for (int ship = 0; ship < SHIPS; ship++) {
                 weightOfShip[ship] = WEIGHT_OF_ONE;
             }
@@ -472,13 +468,13 @@ public final class BookChecks {
             return true;
         }
 
-        void take(long seed, int n, Row row) {
+        void take(Book pages, long seed, int n, Row row) {
             row.begin(n);
-            int left = weighAll();
+            int left = weighAll(pages);
             long x = seed;
             for (int i = 0; i < n && left > 0; i++) {
                 x = x * 6364136223846793005L + 1442695040888963407L;
-                int page = pageOver((int) ((x >>> 33) % left));
+                int page = pageOver(pages.size, (int) ((x >>> 33) % left));
                 if (page == NONE) {
                     return;
                 }
@@ -489,7 +485,7 @@ public final class BookChecks {
             }
         }
 
-        private int weighAll() {
+        private int weighAll(Book pages) {
             int together = 0;
             for (int page = 0; page < pages.size; page++) {
                 weightLeft[page] = weightOfShip[pages.ships[page]];
@@ -499,9 +495,9 @@ public final class BookChecks {
         }
 
         /** The first page with which the weights are together more than r. */
-        private int pageOver(int r) {
+        private int pageOver(int size, int r) {
             int together = 0;
-            for (int page = 0; page < pages.size; page++) {
+            for (int page = 0; page < size && page < ENTRIES; page++) {
                 together += weightLeft[page];
                 if (together > r) {
                     return page;
@@ -515,15 +511,10 @@ public final class BookChecks {
     private static final class Watch {
         private static final long MINUTES_EACH = 20L;
         private static final long GRAMS_A_MINUTE = 100000L;
-        private final Book pages;
         private final long[] minutesOf = new long[ENTRIES];
 
-        Watch(Book pages) {
-            this.pages = pages;
-        }
-
-        int most(int ship, int minutes) {
-            int count = sortMinutes(ship);
+        int most(Book pages, int ship, int minutes) {
+            int count = sortMinutes(pages, ship);
             long left = minutes;
             int watched = 0;
             for (int i = 0; i < count && minutesOf[i] <= left; i++) {
@@ -534,7 +525,7 @@ public final class BookChecks {
         }
 
         /** Minutes of a ship's pages, the least first, for those give the most pages. */
-        private int sortMinutes(int ship) {
+        private int sortMinutes(Book pages, int ship) {
             int count = 0;
             for (int page = 0; page < pages.size; page++) {
                 if (pages.ships[page] == ship) {
