@@ -18,23 +18,8 @@ public final class CheckPromisesTest {
         Due.end();
     }
 
-    private static BookChecks withPages(long seed, int... ships) {
-        BookChecks x = new BookChecks(seed);
-        for (int ship : ships) {
-            x.page(ship, 0, 0, 1);
-        }
-        return x;
-    }
-
-    private static void rowIs(String call, BookChecks x, int... want) {
-        for (int k = 0; k < want.length; k++) {
-            Due.is(call + " at " + k, x.drawn(k), want[k]);
-        }
-        Due.is(call + " behind", x.drawn(want.length), NONE);
-    }
-
     private static void promise15Risk() {
-        BookChecks x = withPages(0, 0, 9);
+        BookChecks x = Make.withPages(0, 0, 9);
         Due.is("15 ship -1", x.risk(-1, 0, 1), false);
         Due.is("15 ship 10", x.risk(10, 0, 1), false);
         Due.is("15 below 0", x.risk(0, 0, 0), false);
@@ -45,11 +30,11 @@ public final class CheckPromisesTest {
         Due.is("15 nothing was changed", x.draw(2), 2);
         Due.is("15 0 / 10", x.risk(0, 0, 10), true);
         Due.is("15 a ship without risk", x.draw(2), 1);
-        rowIs("15 the other", x, 1);
+        Make.rowIs("15 the other", x, 1);
         Due.is("15 10 / 10", x.risk(0, 10, 10), true);
         Due.is("15 0 / 1", x.risk(9, 0, 1), true);
         Due.is("15 now the other", x.draw(2), 1);
-        rowIs("15 the first", x, 0);
+        Make.rowIs("15 the first", x, 0);
         Due.is("15 refused", x.risk(0, 0, 11), false);
         Due.is("15 stays", x.draw(1), 1);
     }
@@ -65,7 +50,7 @@ public final class CheckPromisesTest {
         Due.is("16 2 of 2", x.draw(2), 2);
         Due.is("16 each once", x.drawn(0) + x.drawn(1), 1);
         Due.is("16 0 of 2", x.draw(0), 0);
-        rowIs("16 0 takes none", x);
+        Make.rowIs("16 0 takes none", x);
         x.risk(0, 0, 3);
         Due.is("16 weights of 0", x.draw(2), 0);
         eachOnce();
@@ -73,7 +58,7 @@ public final class CheckPromisesTest {
 
     private static void eachOnce() {
         for (int seed = -5; seed < 5; seed++) {
-            BookChecks x = withPages(seed, new int[30]);
+            BookChecks x = Make.withPages(seed, new int[30]);
             Due.is("16 30 of 30", x.draw(30), 30);
             int seen = 0;
             for (int k = 0; k < 30; k++) {
@@ -86,66 +71,57 @@ public final class CheckPromisesTest {
     private static void promise16ByHand() {
         // From a seed of 0 the first step makes x the addend itself.
         long first = 1442695040888963407L >>> 33;
-        BookChecks x = withPages(0, 0, 1);
+        BookChecks x = Make.withPages(0, 0, 1);
         x.risk(0, 1, 10);
         x.risk(1, 9, 10);
         x.draw(1);
         Due.is("16 by weights of 252 and 2268", x.drawn(0), first % 2520 < 252 ? 0 : 1);
         int[] row = new int[4];
-        x = withPages(0, 0, 0, 0, 0);
+        x = Make.withPages(0, 0, 0, 0, 0);
         x.draw(4);
         for (int k = 0; k < 4; k++) {
             row[k] = x.drawn(k);
         }
         Due.is("16 first of four", row[0], first % 10080 / 2520);
         x.draw(4);
-        rowIs("16 each draw begins by the seed", x, row);
+        Make.rowIs("16 each draw begins by the seed", x, row);
         x.draw(2);
-        rowIs("16 a shorter draw", x, row[0], row[1]);
+        Make.rowIs("16 a shorter draw", x, row[0], row[1]);
         // A seed that makes x 0 at first takes page 0: r is 0.
-        BookChecks y = withPages(seedBefore(0L), 0, 0, 0);
+        BookChecks y = Make.withPages(Make.seedBefore(0L), 0, 0, 0);
         y.draw(1);
-        rowIs("16 r of 0", y, 0);
+        Make.rowIs("16 r of 0", y, 0);
         // x >>> 33 keeps no sign: -1 gives 2147483647, by 7560 with a rest of 5167.
-        y = withPages(seedBefore(-1L), 0, 0, 0);
+        y = Make.withPages(Make.seedBefore(-1L), 0, 0, 0);
         y.draw(1);
-        rowIs("16 x of -1", y, 2);
+        Make.rowIs("16 x of -1", y, 2);
         edgesOfWeights();
     }
 
     private static void edgesOfWeights() {
         // r is 2519 and 2520, the last of page 0 and the first of page 1.
-        BookChecks last = withPages(seedBefore(2519L << 33), 0, 0);
+        BookChecks last = Make.withPages(Make.seedBefore(2519L << 33), 0, 0);
         last.draw(1);
-        rowIs("16 r of 2519", last, 0);
-        BookChecks next = withPages(seedBefore(2520L << 33), 0, 0);
+        Make.rowIs("16 r of 2519", last, 0);
+        BookChecks next = Make.withPages(Make.seedBefore(2520L << 33), 0, 0);
         next.draw(1);
-        rowIs("16 r of 2520", next, 1);
-        BookChecks behind = withPages(seedBefore(0L), 0, 1);
+        Make.rowIs("16 r of 2520", next, 1);
+        BookChecks behind = Make.withPages(Make.seedBefore(0L), 0, 1);
         behind.risk(0, 0, 1);
         behind.draw(1);
-        rowIs("16 a page of no weight is passed over", behind, 1);
-        BookChecks third = withPages(seedBefore(839L << 33), 0, 1);
+        Make.rowIs("16 a page of no weight is passed over", behind, 1);
+        BookChecks third = Make.withPages(Make.seedBefore(839L << 33), 0, 1);
         third.risk(0, 1, 3);
         third.draw(1);
-        rowIs("16 r of 839 by 840", third, 0);
-        third = withPages(seedBefore(840L << 33), 0, 1);
+        Make.rowIs("16 r of 839 by 840", third, 0);
+        third = Make.withPages(Make.seedBefore(840L << 33), 0, 1);
         third.risk(0, 1, 3);
         third.draw(1);
-        rowIs("16 r of 840 by 840", third, 1);
-    }
-
-    /** The seed from which the first step makes x. */
-    private static long seedBefore(long x) {
-        long inverse = 1;
-        for (int i = 0; i < 7; i++) {
-            inverse *= 2 - 6364136223846793005L * inverse;
-        }
-        return (x - 1442695040888963407L) * inverse;
+        Make.rowIs("16 r of 840 by 840", third, 1);
     }
 
     private static void promise17Drawn() {
-        BookChecks x = withPages(11, 1, 2, 3);
+        BookChecks x = Make.withPages(11, 1, 2, 3);
         Due.is("17 before any", x.drawn(0), NONE);
         x.draw(3);
         int first = x.drawn(0);
@@ -163,12 +139,12 @@ public final class CheckPromisesTest {
     }
 
     private static void promise18Same() {
-        BookChecks x = withPages(0, 0, 0);
+        BookChecks x = Make.withPages(0, 0, 0);
         Due.is("18 before any", x.same(5), true);
         x.draw(1);
         int taken = x.drawn(0);
-        long zero = seedBefore(0L);
-        long one = seedBefore(2520L << 33);
+        long zero = Make.seedBefore(0L);
+        long one = Make.seedBefore(2520L << 33);
         Due.is("18 the same seed", x.same(0), true);
         Due.is("18 a seed that takes 0", x.same(zero), taken == 0);
         Due.is("18 a seed that takes 1", x.same(one), taken == 1);
@@ -181,7 +157,7 @@ public final class CheckPromisesTest {
     }
 
     private static void promise18AfterChanges() {
-        BookChecks x = withPages(0, 0, 1);
+        BookChecks x = Make.withPages(0, 0, 1);
         x.risk(0, 0, 1);
         Due.is("18 asked for 2, took 1", x.draw(2), 1);
         Due.is("18 as long as the risk is 0", x.same(77), true);
@@ -189,17 +165,17 @@ public final class CheckPromisesTest {
         Due.is("18 n tells how many, not what was taken", x.same(0), false);
         x.risk(1, 0, 1);
         Due.is("18 now another page", x.same(0), false);
-        BookChecks y = withPages(0, 0);
+        BookChecks y = Make.withPages(0, 0);
         y.draw(0);
         y.page(0, 0, 0, 1);
         Due.is("18 n of 0 stays", y.same(9), true);
-        BookChecks z = withPages(0, 0);
+        BookChecks z = Make.withPages(0, 0);
         z.risk(0, 0, 1);
         Due.is("18 took none", z.draw(1), 0);
         Due.is("18 none and none again", z.same(9), true);
         z.risk(0, 1, 1);
         Due.is("18 none and one", z.same(9), false);
-        BookChecks v = withPages(0, 0);
+        BookChecks v = Make.withPages(0, 0);
         v.draw(1);
         v.risk(0, 0, 1);
         Due.is("18 one and none", v.same(0), false);
@@ -211,7 +187,7 @@ public final class CheckPromisesTest {
     }
 
     private static void promise19Missed() {
-        BookChecks x = withPages(0, 0, 1, 2, 3, 4, 5);
+        BookChecks x = Make.withPages(0, 0, 1, 2, 3, 4, 5);
         oddsAre(x, 0, 0, 1, 1);
         oddsAre(x, 0, 6, 1, 1);
         oddsAre(x, 6, 0, 1, 1);
@@ -229,7 +205,7 @@ public final class CheckPromisesTest {
         Due.is("19 wrong -1", x.missed(0, -1, 1), NONE);
         x.risk(0, 0, 1);
         oddsAre(x, 3, 3, 1, 20);
-        BookChecks y = withPages(0, new int[30]);
+        BookChecks y = Make.withPages(0, new int[30]);
         oddsAre(y, 15, 15, 1, 155117520L);
         oddsAre(y, 29, 1, 1, 30);
         oddsAre(y, 30, 30, 0, 1);

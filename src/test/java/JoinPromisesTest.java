@@ -19,15 +19,6 @@ public final class JoinPromisesTest {
         Due.end();
     }
 
-    private static int thrown(BookChecks x, int page) {
-        try {
-            x.pageAt(page);
-            return 0;
-        } catch (IndexOutOfBoundsException e) {
-            return e.getClass() == IndexOutOfBoundsException.class ? 1 : 2;
-        }
-    }
-
     private static void promise1NothingIsTold() {
         BookChecks x = new BookChecks(Long.MIN_VALUE);
         Due.is("1 run", x.run(), 0);
@@ -35,7 +26,7 @@ public final class JoinPromisesTest {
         Due.is("1 points", x.points(0), 0);
         Due.is("1 differs", x.differs(0), 0);
         Due.is("1 waits", x.waits(0, 0), NONE);
-        Due.is("1 pageAt", thrown(x, 0), 1);
+        Due.is("1 pageAt", Make.thrown(x, 0), 1);
         Due.is("1 lacks", x.lacks(0), NONE);
         Due.is("1 nowhere", x.nowhere(0, 0), NONE);
         Due.is("1 out", x.out(0, 0, 1), NONE);
@@ -273,12 +264,12 @@ public final class JoinPromisesTest {
         Due.is("9 page 0", x.pageAt(0), 300);
         Due.is("9 page 1", x.pageAt(1), 900);
         Due.is("9 page 2", x.pageAt(2), 700);
-        Due.is("9 page 3", thrown(x, 3), 1);
-        Due.is("9 page 29", thrown(x, 29), 1);
-        Due.is("9 page 30", thrown(x, 30), 1);
-        Due.is("9 page -1", thrown(x, -1), 1);
-        Due.is("9 greatest", thrown(x, Integer.MAX_VALUE), 1);
-        Due.is("9 least", thrown(x, Integer.MIN_VALUE), 1);
+        Due.is("9 page 3", Make.thrown(x, 3), 1);
+        Due.is("9 page 29", Make.thrown(x, 29), 1);
+        Due.is("9 page 30", Make.thrown(x, 30), 1);
+        Due.is("9 page -1", Make.thrown(x, -1), 1);
+        Due.is("9 greatest", Make.thrown(x, Integer.MAX_VALUE), 1);
+        Due.is("9 least", Make.thrown(x, Integer.MIN_VALUE), 1);
     }
 
     private static void promise10Balance() {

@@ -12,24 +12,6 @@ public final class PlantPromisesTest {
         Due.end();
     }
 
-    private static BookChecks plantWith(long in, long... outs) {
-        BookChecks x = new BookChecks(0);
-        x.plant(in, 3);
-        for (long grams : outs) {
-            // A negative number stands for an out of another kind.
-            x.out(0, grams > 0 ? 3 : 4, grams > 0 ? grams : -grams);
-        }
-        return x;
-    }
-
-    private static void nowhereIs(String call, BookChecks x, int... want) {
-        for (int k = 0; k < want.length; k++) {
-            Due.is(call + " at " + k, x.nowhere(0, k), want[k]);
-        }
-        Due.is(call + " behind", x.nowhere(0, want.length), NONE);
-        Due.is(call + " before", x.nowhere(0, -1), NONE);
-    }
-
     private static void promise11Plant() {
         BookChecks x = new BookChecks(0);
         Due.is("11 in -1", x.plant(-1, 0), NONE);
@@ -66,15 +48,15 @@ public final class PlantPromisesTest {
     }
 
     private static void promise13Lacks() {
-        Due.is("13 no out", plantWith(5).lacks(0), 0);
-        Due.is("13 as much", plantWith(5, 2, 3).lacks(0), 0);
-        Due.is("13 less", plantWith(5, 2).lacks(0), 0);
-        Due.is("13 more", plantWith(5, 2, 3, 1).lacks(0), 1);
-        Due.is("13 other kinds are not counted", plantWith(5, 2, -900).lacks(0), 0);
-        Due.is("13 beyond an int", plantWith(0, 1000000000L, 1000000000L, 1000000000L).lacks(0), 3000000000L);
-        Due.is("13 plant -1", plantWith(5).lacks(-1), NONE);
-        Due.is("13 plant 1", plantWith(5).lacks(1), NONE);
-        BookChecks x = plantWith(5, 9);
+        Due.is("13 no out", Make.plantWith(5).lacks(0), 0);
+        Due.is("13 as much", Make.plantWith(5, 2, 3).lacks(0), 0);
+        Due.is("13 less", Make.plantWith(5, 2).lacks(0), 0);
+        Due.is("13 more", Make.plantWith(5, 2, 3, 1).lacks(0), 1);
+        Due.is("13 other kinds are not counted", Make.plantWith(5, 2, -900).lacks(0), 0);
+        Due.is("13 beyond an int", Make.plantWith(0, 1000000000L, 1000000000L, 1000000000L).lacks(0), 3000000000L);
+        Due.is("13 plant -1", Make.plantWith(5).lacks(-1), NONE);
+        Due.is("13 plant 1", Make.plantWith(5).lacks(1), NONE);
+        BookChecks x = Make.plantWith(5, 9);
         x.plant(1, 4);
         x.out(1, 4, 3);
         Due.is("13 plant 0 of two", x.lacks(0), 4);
@@ -82,38 +64,38 @@ public final class PlantPromisesTest {
     }
 
     private static void promise14Nowhere() {
-        nowhereIs("14 nothing lacks", plantWith(5, 2, 3));
-        nowhereIs("14 no out", plantWith(0));
-        nowhereIs("14 all lacks", plantWith(0, 2, 3), 0, 1);
+        Make.nowhereIs("14 nothing lacks", Make.plantWith(5, 2, 3));
+        Make.nowhereIs("14 no out", Make.plantWith(0));
+        Make.nowhereIs("14 all lacks", Make.plantWith(0, 2, 3), 0, 1);
         // 6 lack: no single out is enough but the last.
-        nowhereIs("14 the one that is enough", plantWith(10, 3, 4, 2, 7), 3);
+        Make.nowhereIs("14 the one that is enough", Make.plantWith(10, 3, 4, 2, 7), 3);
         // 9 lack: of the pairs 0 3, 1 3 and 2 3 the first.
-        nowhereIs("14 the fewest", plantWith(7, 3, 4, 2, 7), 0, 3);
+        Make.nowhereIs("14 the fewest", Make.plantWith(7, 3, 4, 2, 7), 0, 3);
         // 3 lack: out 0 alone is just enough.
-        nowhereIs("14 just enough", plantWith(13, 3, 4, 2, 7), 0);
-        nowhereIs("14 other kinds never", plantWith(4, -900, 3, -900, 4), 1);
-        Due.is("14 plant 1", plantWith(0, 2).nowhere(1, 0), NONE);
-        Due.is("14 plant -1", plantWith(0, 2).nowhere(-1, 0), NONE);
+        Make.nowhereIs("14 just enough", Make.plantWith(13, 3, 4, 2, 7), 0);
+        Make.nowhereIs("14 other kinds never", Make.plantWith(4, -900, 3, -900, 4), 1);
+        Due.is("14 plant 1", Make.plantWith(0, 2).nowhere(1, 0), NONE);
+        Due.is("14 plant -1", Make.plantWith(0, 2).nowhere(-1, 0), NONE);
     }
 
     private static void promise14Order() {
         // 10 lack: 0 3 and 1 2 have just that, and 0 is the lesser where they differ first.
-        nowhereIs("14 0 3 before 1 2", plantWith(10, 4, 5, 5, 6), 0, 3);
+        Make.nowhereIs("14 0 3 before 1 2", Make.plantWith(10, 4, 5, 5, 6), 0, 3);
         // 11 lack: out 0 is too light for any pair.
-        nowhereIs("14 1 2 before 1 3", plantWith(15, 1, 8, 8, 9), 1, 2);
+        Make.nowhereIs("14 1 2 before 1 3", Make.plantWith(15, 1, 8, 8, 9), 1, 2);
         // 10 lack: 0 4 reaches it and 0 1 to 0 3 do not; 1 2 would too, but differs first at 1.
-        nowhereIs("14 0 4 before 1 2", plantWith(16, 2, 5, 5, 5, 9), 0, 4);
+        Make.nowhereIs("14 0 4 before 1 2", Make.plantWith(16, 2, 5, 5, 5, 9), 0, 4);
     }
 
     private static void promise14Edges() {
         long g = 1000000000L;
-        nowhereIs("14 all eight", plantWith(0, g, g, g, g, g, g, g, g), 0, 1, 2, 3, 4, 5, 6, 7);
-        nowhereIs("14 seven of eight", plantWith(g, g, g, g, g, g, g, g, g), 0, 1, 2, 3, 4, 5, 6);
-        nowhereIs("14 the last of eight", plantWith(7, 1, 1, 1, 1, 1, 1, 1, 9), 7);
-        BookChecks x = plantWith(0, 5);
-        nowhereIs("14 one", x, 0);
+        Make.nowhereIs("14 all eight", Make.plantWith(0, g, g, g, g, g, g, g, g), 0, 1, 2, 3, 4, 5, 6, 7);
+        Make.nowhereIs("14 seven of eight", Make.plantWith(g, g, g, g, g, g, g, g, g), 0, 1, 2, 3, 4, 5, 6);
+        Make.nowhereIs("14 the last of eight", Make.plantWith(7, 1, 1, 1, 1, 1, 1, 1, 9), 7);
+        BookChecks x = Make.plantWith(0, 5);
+        Make.nowhereIs("14 one", x, 0);
         x.out(0, 3, 9);
-        nowhereIs("14 with a later out", x, 0, 1);
+        Make.nowhereIs("14 with a later out", x, 0, 1);
         Due.is("14 k least", x.nowhere(0, Integer.MIN_VALUE), NONE);
         Due.is("14 k greatest", x.nowhere(0, Integer.MAX_VALUE), NONE);
     }
